@@ -1,0 +1,121 @@
+/** Promises 42 to 44. */
+public final class UndoTest {
+    public static void main(String[] args) {
+        undoEach();
+        onlyEight();
+        notUndone();
+        snapshot();
+        Expect.end("UndoTest");
+    }
+
+    private static void undoEach() {
+        FerryTickets x = new FerryTickets();
+        Expect.state("42: none", () -> x.undo());
+        Expect.read(x, "nbadu:0>1/1;nbe:1>2/3;p0o=0;m1=3");
+        x.letter('a');
+        x.letter('b');
+        undone(x, "letter", () -> x.letter('k'));
+        undone(x, "unletter", () -> x.unletter());
+        undone(x, "print", () -> x.print(1, 2, 3));
+        undone(x, "throwAway", () -> x.throwAway(0));
+        undone(x, "pier", () -> x.pier(4, false));
+        undone(x, "punch", () -> x.punch(0, true, 1));
+        undone(x, "wet", () -> x.wet(0, true, 7));
+        undone(x, "tear", () -> x.tear(1));
+        undone(x, "lose", () -> x.lose(1, false));
+        x.lose(1, true);
+        undone(x, "find", () -> x.find(1, false));
+        undone(x, "ride", () -> x.ride(0, false));
+        undone(x, "day", () -> x.day());
+        undone(x, "read", () -> Expect.read(x, "d;x0;m2=1"));
+        x.mood(0, 2);
+        x.undo();
+        Expect.same("42: mood of old", 0, x.mood(0, 1));
+        x.mood(0, 3);
+        x.undo();
+        Expect.refused("42: mood of 1 again", x, 3, 1, () -> x.mood(0, 1));
+        x.print(0, 1, 1);
+        x.undo();
+        x.letter('t');
+        x.print(0, 1, 1);
+        Expect.same("42: the draft of old", 't', x.wordAt(2, 2));
+    }
+
+    private static void undone(FerryTickets x, String name, Expect.Call change) {
+        String before = Expect.digest(x);
+        int changes = x.account(13);
+        change.answer();
+        Expect.same("42: " + name + " is a change", Math.min(8, changes + 1), x.account(13));
+        Expect.same("42: " + name + " changes", false, before.equals(Expect.digest(x)));
+        Expect.same("42: " + name + " leaves", Math.min(7, changes), x.undo());
+        Expect.same("42: " + name + " undone", before, Expect.digest(x));
+    }
+
+    private static void onlyEight() {
+        FerryTickets x = new FerryTickets();
+        for (int day = 1; day <= 20; day++) {
+            x.day();
+            Expect.same("42: changes", Math.min(8, day), x.account(13));
+        }
+        for (int left = 7; left >= 0; left--) {
+            Expect.same("42: left", left, x.undo());
+            Expect.same("42: day", 12 + left, x.account(2));
+        }
+        Expect.state("42: no more", () -> x.undo());
+        x.day();
+        Expect.same("42: one again", 0, x.undo());
+        Expect.same("42: day 12", 12, x.account(2));
+    }
+
+    private static void notUndone() {
+        FerryTickets x = new FerryTickets();
+        Expect.read(x, "nba:0>1/1");
+        x.line(0);
+        Expect.outcome(() -> x.pier(0, true));
+        Expect.outcome(() -> Expect.read(x, "?"));
+        Expect.outcome(() -> Expect.read(x, "d;x3"));
+        x.append('d');
+        Expect.same("42: only changes", 1, x.account(13));
+        x.snapshot();
+        Expect.same("43: no change", 1, x.account(13));
+        x.undo();
+        Expect.same("42: the line", '.', x.character(0));
+        Expect.same("42: the buffer", 1, x.account(12));
+        Expect.same("42: the refusal", 3, x.refusal(false));
+        Expect.same("42: the error position", 0, x.errorPosition());
+        Expect.same("42: the refused item", 1, x.refusedItem());
+        x.restore();
+        Expect.same("44: the buffer", 1, x.account(12));
+        Expect.same("44: the line", '1', x.character(6));
+        Expect.same("44: the refusal", 1, x.refusal(true));
+    }
+
+    private static void snapshot() {
+        FerryTickets x = new FerryTickets();
+        Expect.state("44: none", () -> x.restore());
+        Expect.read(x, "nba:0>1/1;nbe:1>2/3;p0o=0;m1=3;d;c2;g0o;t1");
+        x.letter('a');
+        Expect.same("43: tickets", 2, x.snapshot());
+        String before = Expect.digest(x);
+        Expect.read(x, "x0;x0;m1=0;d;d;o2");
+        x.unletter();
+        Expect.same("44: tickets", 2, x.restore());
+        Expect.same("44: restored", before, Expect.digest(x));
+        Expect.same("44: nothing can be undone", 0, x.account(13));
+        Expect.state("44: undo", () -> x.undo());
+        Expect.same("44: mood", 3, x.mood(1, 1));
+        x.undo();
+        x.wet(0, true, 9);
+        Expect.same("44: again", 2, x.restore());
+        Expect.same("44: restored again", before, Expect.digest(x));
+        x.throwAway(1);
+        Expect.same("43: a later one", 1, x.snapshot());
+        x.throwAway(0);
+        Expect.same("44: the later one", 1, x.restore());
+        x.clear();
+        Expect.same("43: of nothing", 0, x.snapshot());
+        x.letter('b');
+        Expect.same("44: nothing", 0, x.restore());
+        Expect.same("44: no draft", 0, x.account(1));
+    }
+}
