@@ -244,6 +244,10 @@ public final class HalvesTest {
             Expect.same("18: none is like none", true, x.doAgree(0, isAgain));
             x.lose(0, true);
             Expect.same("18: lost halves too", true, x.doAgree(0, isAgain));
+            Expect.print(x, "ba", 0, 1, 1);
+            x.punch(1, true, 0);
+            x.wet(1, true, 3);
+            Expect.same("18: none and not punched", false, x.doAgree(1, isAgain));
         }
     }
 
@@ -268,6 +272,7 @@ public final class HalvesTest {
         Expect.same("19: mood 4", 4, y.moodFor(0, false));
         FerryTickets z = withWord("bu");
         z.punch(0, false, 0);
+        Expect.same("19: mood 0", 0, z.moodFor(0, false));
         z.wet(0, false, 3);
         Expect.same("19: round the end", 4, z.moodFor(0, false));
     }
@@ -333,7 +338,12 @@ public final class HalvesTest {
         Expect.same("21: of several the lowest", 1, z.likely(2, false));
         z.wet(2, false, 6);
         Expect.same("21: ? is like none", 0, z.likely(2, false));
-        FerryTickets w = withWord("bb" + "aa");
+        FerryTickets v = withWord("kkkkka");
+        Expect.print(v, "aeiou", 0, 1, 1);
+        v.punch(1, false, 0);
+        v.wet(1, false, 9);
+        Expect.same("21: ???ae, 6 and 5 apart", 1, v.likely(1, false));
+        FerryTickets w = withWord("bbaa");
         Expect.print(w, "bbu", 0, 1, 1);
         Expect.print(w, "bbudd", 0, 1, 1);
         w.punch(2, false, 0);

@@ -136,6 +136,9 @@ public final class LinesTest {
         x.punch(1, true, 0);
         x.wet(1, true, 4);
         Expect.same("37: two of three", 2f / 3f, x.readShare());
+        Expect.read(x, "nba:0>1/1;p2o=0;p2r=0");
+        Expect.same("37: return halves too", 4f / 5f, x.readShare());
+        x.throwAway(2);
         x.lose(1, true);
         x.wet(0, false, 3);
         Expect.same("37: one of three", 1f / 3f, x.readShare());

@@ -32,6 +32,7 @@ public final class TicketsTest {
         String empty = Expect.digest(x);
         Expect.same("2: clear of nothing", 0, x.clear());
         Expect.read(x, "nba:0>1/2;nki:1>2/3;p0o=0;p0r=0;g0o;g0r;m1=4;c4;d;l0o;t1");
+        Expect.read(x, "m0=2;c0");
         x.letter('b');
         Expect.outcome(() -> x.pier(4, false));
         Expect.outcome(() -> Expect.read(x, "z"));
@@ -49,7 +50,10 @@ public final class TicketsTest {
         Expect.same("2: error position stays", 0, x.errorPosition());
         Expect.same("2: refused item stays", 1, x.refusedItem());
         Expect.same("2: line stays", '_', x.character(0));
+        Expect.same("2: moods are new", 0, x.mood(0, 4));
         Expect.same("2: moods are new", 0, x.mood(1, 4));
+        Expect.refused("2: piers are open", x, 3, 1, () -> x.pier(0, true));
+        Expect.refused("2: piers are open", x, 3, 1, () -> x.pier(4, true));
         Expect.same("2: snapshot stays", 2, x.restore());
         Expect.same("2: restored", before, Expect.digest(x));
     }
@@ -134,6 +138,9 @@ public final class TicketsTest {
         Expect.same("6: a new one is new", 2, Expect.print(x, "lo", 0, 1, 1));
         Expect.same("6: not punched", 0, x.halfOf(2, false, 0));
         Expect.same("6: not ridden", -1, x.ticketOf(2, 6));
+        Expect.same("6: nor lost nor wet nor torn", ".-.:0>1", Expect.line(x, 2));
+        x.punch(2, false, 0);
+        Expect.same("6: it can be ridden", 3, x.ride(2, false) + x.halfOf(2, false, 6));
     }
 
     private static void moods() {

@@ -28,6 +28,8 @@ public final class UndoTest {
         undone(x, "ride", () -> x.ride(0, false));
         undone(x, "day", () -> x.day());
         undone(x, "read", () -> Expect.read(x, "d;x0;m2=1"));
+        x.mood(0, 3);
+        x.undo();
         x.mood(0, 2);
         x.undo();
         Expect.same("42: mood of old", 0, x.mood(0, 1));
@@ -42,6 +44,7 @@ public final class UndoTest {
     }
 
     private static void undone(FerryTickets x, String name, Expect.Call change) {
+        x.day();
         String before = Expect.digest(x);
         int changes = x.account(13);
         change.answer();
