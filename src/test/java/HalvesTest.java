@@ -338,6 +338,10 @@ public final class HalvesTest {
         Expect.same("21: of several the lowest", 1, z.likely(2, false));
         z.wet(2, false, 6);
         Expect.same("21: ? is like none", 0, z.likely(2, false));
+        FerryTickets u = withWord("da");
+        Expect.print(u, "ba", 0, 1, 1);
+        u.punch(1, false, 0);
+        Expect.same("21: the first letter counts", 1, u.likely(1, false));
         FerryTickets v = withWord("kkkkka");
         Expect.print(v, "aeiou", 0, 1, 1);
         v.punch(1, false, 0);

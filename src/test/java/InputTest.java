@@ -4,6 +4,7 @@ public final class InputTest {
         append();
         orders();
         faults();
+        fullBuffer();
         refusals();
         allOrNone();
         kept();
@@ -162,6 +163,29 @@ public final class InputTest {
             days.append("d;");
         }
         fault(days.toString(), 60);
+    }
+
+    /** Texts that end with the last of the 60 characters, behind which there is nothing to look at. */
+    private static void fullBuffer() {
+        String days = "d;".repeat(29);
+        for (String last : new String[] {"t0", "c0", "x0"}) {
+            FerryTickets x = new FerryTickets();
+            Expect.read(x, "nba:0>1/1");
+            Expect.same("39: 60 to " + last, 30, Expect.read(x, days + last));
+            Expect.same("39: days to " + last, 29, x.account(2));
+        }
+        FerryTickets x = new FerryTickets();
+        Expect.same("39: 60 to d", 30, Expect.read(x, "c0" + ";d".repeat(29)));
+        Expect.same("39: 60 to g0o", "UnsupportedOperationException",
+            Expect.outcome(() -> Expect.read(x, "m1=2;" + "d;".repeat(26) + "g0o")));
+        Expect.same("41: 60 to g0o", 27, x.refusedItem());
+        Expect.same("39: 60 to a print", 26, Expect.read(x, "d;".repeat(25) + "nbad:0>1/1"));
+        Expect.same("39: printed", 3, x.ticketOf(0, 0));
+        for (String last : new String[] {"nb", "p0", "m0", "l0", "w0"}) {
+            fault(days + last, 60);
+        }
+        fault("d;".repeat(26) + "nbababab", 59);
+        fault("d;".repeat(27) + "nbabab", 60);
     }
 
     private static void refuse(String text, int order, int reason, int detail) {

@@ -138,7 +138,7 @@ public final class ModelTest {
     }
 
     private String word() {
-        String[] some = {"ba", "be", "bad", "badu", "bedo", "banana", "kolibu", "aeiou", "sturdo", "d", "brr", "in"};
+        String[] some = {"ba", "be", "bad", "badu", "bedo", "banana", "kolibu", "aeiou", "sturdo", "d", "brr", "in", "da", "nadu"};
         return some[random.nextInt(some.length)];
     }
 
