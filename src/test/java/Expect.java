@@ -6,15 +6,25 @@ final class Expect {
 
     private static int wrong = 0;
     private static int asked = 0;
+    private static String test = "";
 
     private Expect() {
+    }
+
+    /** What is asked from now on is asked for this test. */
+    static void begin(String name) {
+        test = name + " ";
+    }
+
+    static int asked() {
+        return asked;
     }
 
     static void same(String what, Object due, Object got) {
         asked++;
         if (!due.equals(got)) {
             wrong++;
-            System.out.println(what + ": answered " + got + ", due is " + due);
+            System.out.println(test + what + ": answered " + got + ", due is " + due);
         }
     }
 
