@@ -8,7 +8,7 @@ import java.util.function.Supplier;
 
 /**
  * What the boundary tests share. Each of them is a static method named after its promise and its case, as
- * p05_clauseZero, and makes its own offices, none of which answers more than 512 calls.
+ * p05_clauseOutOfRange, and makes its own offices, none of which answers more than 512 calls.
  */
 final class Edges {
     static final String LETTERS = "bdklmnrstaeiou";
@@ -284,6 +284,22 @@ final class Edges {
         Expect.same("unchanged", now(made) + undoable(made) + saved(made), now(after) + undoable(after) + saved(after));
         Expect.same("buffer", buffer(made), buffer(after));
         Expect.same("faults", faults(made.get()) + refusal(made.get()), faults(after.get()) + refusal(after.get()));
+    }
+
+    /** What stands beside the changes is the same before and after the call in the rich office. */
+    static void besideStays(Function<FerryTickets, Object> call) {
+        FerryTickets x = rich();
+        String before = text(x) + faults(x) + refusal(x) + x.account(12);
+        call.apply(x);
+        Expect.same("beside", before, text(x) + faults(x) + refusal(x) + x.account(12));
+        Expect.same("the text in the buffer", "5", bufferFault(x));
+    }
+
+    /** In the rich office the buffer holds "d;m1=", to which no digit is added. */
+    private static String bufferFault(FerryTickets x) {
+        Expect.append(x, "q");
+        Expect.argument("read", () -> x.read());
+        return "" + x.errorPosition();
     }
 
     // ---- numbers out of range

@@ -796,11 +796,12 @@ public final class HalfEdgesTest {
         Expect.same("2 and 1", 1, Edges.washed("ba", false, 0, 2).would(0, false, 1));
     }
 
-    static void p20_noMoreThanNine() {
-        // Of 5 holes 2 stay when a half is wet by 9, so that the 5 vowels cannot come round to themselves.
+    static void p20_moreThanNineTogether() {
+        // A vowel is read as printed while no hole is closed, and again when 5 are: of 5 holes none is left then.
         for (int wet = 1; wet <= 9; wet++) {
-            FerryTickets x = Edges.washed("ba", false, 4, wet);
-            Expect.same("wet " + wet, 1, x.would(0, false, 9));
+            for (int mood = 0; mood < 5; mood++) {
+                Expect.same("wet " + wet, 1, Edges.washed("aeioub", false, mood, wet).would(0, false, 9));
+            }
         }
     }
 
@@ -874,6 +875,13 @@ public final class HalfEdgesTest {
     static void p21_placeByPlace() {
         // "boboko" has all letters of "oboko", but none at its place.
         Expect.same("moved by a place", 1, likelyOf(1, 3, "oboko", "bubuku"));
+    }
+
+    static void p21_sixAndFiveUnlike() {
+        FerryTickets x = Edges.withWords("kkkkka", "aeiou");
+        x.punch(1, false, 0);
+        x.wet(1, false, 9);
+        Expect.same("the later one is nearer", 1, x.likely(1, false));
     }
 
     static void p21_sixUnlike() {

@@ -296,7 +296,6 @@ public final class HalvesTest {
         y.mood(0, 1);
         y.punch(0, false, 0);
         Expect.same("20: one hole", 1, y.would(0, false, 9));
-        // A half is never wet by more than 9: of 5 holes 2 stay, which another 3 closings would take.
         FerryTickets z = withWord("ba");
         z.mood(0, 4);
         z.punch(0, false, 0);

@@ -222,6 +222,15 @@ public final class InputEdgesTest {
         Expect.same("clause", 2, x.ticketOf(1, 4));
     }
 
+    static void p39_leavesLineAndRefusal() {
+        FerryTickets x = Edges.withTickets(1);
+        x.line(0);
+        Expect.refused("unletter", x, 11, 1, () -> x.unletter());
+        Expect.read(x, "p0o=0;x0");
+        Expect.same("line", ".-.:0>1", Edges.text(x));
+        Expect.same("refusal", "11 1", Edges.refusal(x));
+    }
+
     static void p39_emptyAfterwards() {
         FerryTickets x = filled(3);
         x.read();

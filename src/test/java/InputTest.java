@@ -245,11 +245,8 @@ public final class InputTest {
     }
 
     private static void allOrNone() {
-        FerryTickets x = new FerryTickets();
-        Expect.read(x, "nba:0>1/1;nba:0>1/1;nba:0>1/1;nba:0>1/1");
-        Expect.read(x, "nba:0>1/1;nba:0>1/1;nba:0>1/1");
-        x.letter('b');
-        String before = Expect.digest(x);
+        FerryTickets x = sevenTickets();
+        String before = Expect.digest(sevenTickets());
         Expect.refused("39: nine", x, 1, 8, () -> Expect.read(x, "x0;d;nda:0>1/1;nda:0>1/1;nda:0>1/1"));
         Expect.same("41: nine", 4, x.refusedItem());
         Expect.same("39: none of them", before, Expect.digest(x));
@@ -257,6 +254,14 @@ public final class InputTest {
         x.undo();
         x.undo();
         Expect.same("39: only what stood is undone", 4, x.account(0));
+    }
+
+    private static FerryTickets sevenTickets() {
+        FerryTickets x = new FerryTickets();
+        Expect.read(x, "nba:0>1/1;nba:0>1/1;nba:0>1/1;nba:0>1/1");
+        Expect.read(x, "nba:0>1/1;nba:0>1/1;nba:0>1/1");
+        x.letter('b');
+        return x;
     }
 
     private static void kept() {

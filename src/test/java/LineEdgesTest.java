@@ -153,6 +153,22 @@ public final class LineEdgesTest {
         Expect.same("line", "stride-stride:4>0", Edges.text(x));
     }
 
+    static void p33_noChangeWrites() {
+        Edges.besideStays(x -> x.unletter());
+        Edges.besideStays(x -> x.letter('b'));
+        Edges.besideStays(x -> x.print(0, 1, 1));
+        Edges.besideStays(x -> x.throwAway(0));
+        Edges.besideStays(x -> x.mood(0, 1));
+        Edges.besideStays(x -> x.pier(0, false));
+        Edges.besideStays(x -> x.punch(1, true, 0));
+        Edges.besideStays(x -> x.wet(0, false, 9));
+        Edges.besideStays(x -> x.tear(0));
+        Edges.besideStays(x -> x.lose(0, true));
+        Edges.besideStays(x -> x.find(2, true));
+        Edges.besideStays(x -> x.ride(0, true));
+        Edges.besideStays(x -> x.day());
+    }
+
     // ---- 34: refusal
 
     static void p34_nothingRefused() {

@@ -9,14 +9,17 @@ import java.util.Random;
 
 /** Random calls answer as the model answers, and nothing throws but what a call's description names. */
 public final class ModelTest {
-    private static final int RUNS = 400;
+    private static final int RUNS = 1200;
+    // What an office answers after its 512th call is free.
     private static final int CALLS = 512;
+    private static final int LONGEST_LINE = 17;
     private static final String LETTERS = "bdklmnrstaeiou";
     private static final String SIGNS = "npwtlfgmcoxd:>/=+;or0123456789ba ?";
 
     private final Random random;
     private final FerryTickets office = new FerryTickets();
     private final Model model = new Model();
+    private int calls = 0;
 
     private ModelTest(long seed) {
         random = new Random(seed);
@@ -38,7 +41,7 @@ public final class ModelTest {
 
     private void run(int seed, List<Method> methods) throws ReflectiveOperationException {
         // Few clears and restores let the runs grow rich.
-        for (int call = 0; call < CALLS; call++) {
+        for (int call = 0; calls < CALLS; call++) {
             int kind = random.nextInt(10);
             if (kind < 2 && random.nextInt(4) == 0) {
                 text(seed, call, randomOrders());
@@ -52,27 +55,25 @@ public final class ModelTest {
                 }
             }
             if (call % 16 == 0) {
-                Expect.same(seed + "." + call + " line", lines(true), lines(false));
+                lines(seed + "." + call);
             }
         }
     }
 
-    private String lines(boolean isModel) throws ReflectiveOperationException {
-        StringBuilder text = new StringBuilder();
-        Class<?> one = isModel ? Model.class : FerryTickets.class;
-        Object object = isModel ? model : office;
-        int count = isModel ? model.account(0) : office.account(0);
-        for (int ticket = 0; ticket < count; ticket++) {
-            int length = (Integer) one.getMethod("line", int.class).invoke(object, ticket);
-            for (int i = 0; i < length; i++) {
-                text.append(one.getMethod("character", int.class).invoke(object, i));
-            }
-            text.append(' ');
+    private void lines(String where) throws ReflectiveOperationException {
+        Method line = FerryTickets.class.getMethod("line", int.class);
+        Method character = FerryTickets.class.getMethod("character", int.class);
+        compare(where, line, new Object[] {random.nextInt(4)});
+        for (int i = 0; i <= LONGEST_LINE; i++) {
+            compare(where, character, new Object[] {i});
         }
-        return text.toString();
     }
 
     private void compare(String where, Method method, Object[] arguments) throws ReflectiveOperationException {
+        if (calls >= CALLS) {
+            return;
+        }
+        calls++;
         Object got = outcome(method, office, arguments);
         Object due = outcome(Model.class.getMethod(method.getName(), method.getParameterTypes()), model, arguments);
         Expect.same(where + " " + method.getName() + Arrays.toString(arguments), due, got);

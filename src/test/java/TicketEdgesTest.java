@@ -443,6 +443,16 @@ public final class TicketEdgesTest {
         Edges.refused(1, 8, () -> full("du"), x -> x.print(0, 1, 1));
     }
 
+    static void p05_ninthTicketAfterThrowAway() {
+        Edges.refused(1, 8, () -> {
+            FerryTickets x = full("du");
+            x.throwAway(0);
+            x.print(0, 1, 1);
+            Edges.spell(x, "du");
+            return x;
+        }, x -> x.print(0, 1, 1));
+    }
+
     static void p05_wordBeforeRoom() {
         Edges.refused(2, 1, () -> full("u"), x -> x.print(0, 1, 1));
         Edges.refused(2, 3, () -> full("bbb"), x -> x.print(0, 1, 1));

@@ -218,24 +218,8 @@ public final class UndoEdgesTest {
         noChange(x -> Expect.read(x, "d;x2"));
     }
 
-    /** What stands beside the changes is the same before and after the call. */
-    private static void besideStays(Function<FerryTickets, Object> call) {
-        FerryTickets x = Edges.rich();
-        String before = Edges.text(x) + Edges.faults(x) + Edges.refusal(x) + x.account(12);
-        call.apply(x);
-        Expect.same("beside", before, Edges.text(x) + Edges.faults(x) + Edges.refusal(x) + x.account(12));
-        Expect.same("the text in the buffer", "5", bufferFault(x));
-    }
-
-    /** In the rich office the buffer holds "d;m1=", to which no digit is added. */
-    private static String bufferFault(FerryTickets x) {
-        Expect.append(x, "q");
-        Expect.argument("read", () -> x.read());
-        return "" + x.errorPosition();
-    }
-
     static void p42_besideStays() {
-        besideStays(x -> x.undo());
+        Edges.besideStays(x -> x.undo());
     }
 
     static void p42_theLineOfWhatIsUndone() {
@@ -336,7 +320,7 @@ public final class UndoEdgesTest {
     }
 
     static void p43_besideStays() {
-        besideStays(x -> x.snapshot());
+        Edges.besideStays(x -> x.snapshot());
     }
 
     // ---- 44: restore
@@ -408,7 +392,7 @@ public final class UndoEdgesTest {
     }
 
     static void p44_besideStays() {
-        besideStays(x -> x.restore());
+        Edges.besideStays(x -> x.restore());
     }
 
     static void p44_noRefusalWithout() {
