@@ -762,7 +762,7 @@ public final class FerryTickets {
             if (end >= buffered) {
                 return NONE;
             }
-            if (buffer[end] != ';') {
+            if (signAt(end) != ';') {
                 return end;
             }
             start = end + 1;
@@ -788,7 +788,7 @@ public final class FerryTickets {
 
     // The index behind the order, or ~i if its fault is at i.
     private int endOfOrder(int start) {
-        String shape = start < buffered ? shapeOf(buffer[start]) : NO_ORDER;
+        String shape = shapeOf(signAt(start));
         int at = start;
         for (int i = 0; i < shape.length(); i++) {
             int fitting = fittingCharacters(shape.charAt(i), at);
@@ -819,10 +819,7 @@ public final class FerryTickets {
     }
 
     private int fittingCharacters(char sign, int at) {
-        if (at >= buffered) {
-            return 0;
-        }
-        char found = buffer[at];
+        char found = signAt(at);
         switch (sign) {
             case ANY_DIGIT: return found >= '0' && found <= '9' ? 1 : 0;
             case ANY_HALF: return found == 'o' || found == 'r' ? 1 : 0;
@@ -834,7 +831,7 @@ public final class FerryTickets {
 
     private int lettersFrom(int start) {
         int count = 0;
-        while (count < MOST_LETTERS && start + count < buffered && isLetter(buffer[start + count])) {
+        while (count < MOST_LETTERS && isLetter(signAt(start + count))) {
             count++;
         }
         return count;
@@ -842,9 +839,9 @@ public final class FerryTickets {
 
     private int carryOut(int start, int end) {
         int first = digitAt(start + 1);
-        boolean isReturn = start + 2 < end && buffer[start + 2] == 'r';
+        boolean isReturn = start + 2 < end && signAt(start + 2) == 'r';
         int last = digitAt(end - 1);
-        switch (buffer[start]) {
+        switch (signAt(start)) {
             case 'n': return carryOutPrint(start, end);
             case 'p': return tryPunch(first, isReturn, last);
             case 'w': return tryWet(first, isReturn, last);
@@ -863,13 +860,19 @@ public final class FerryTickets {
     private int carryOutPrint(int start, int end) {
         told.length = 0;
         for (int i = start + 1; i < end - PRINT_TAIL; i++) {
-            told.add(buffer[i]);
+            told.add(signAt(i));
         }
         return tryPrint(told, digitAt(end - 5), digitAt(end - 3), digitAt(end - 1));
     }
 
     private int digitAt(int index) {
-        return index >= 0 && index < buffered ? buffer[index] - '0' : NONE;
+        char sign = signAt(index);
+        return sign == NOTHING ? NONE : sign - '0';
+    }
+
+    // No order has the sign for nothing, so that it fits nowhere.
+    private char signAt(int index) {
+        return index >= 0 && index < buffered ? buffer[index] : NOTHING;
     }
 
     private static final class Word {
